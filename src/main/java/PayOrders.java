@@ -45,6 +45,7 @@ public final class PayOrders {
     private static final int STEADY_STEP = 50;
     private static final int STEADY_TRIES = 200;
     private static final int REST_WITHOUT_END = 999_999;
+    private static final int ABOVE_ALL_FLOORS = 1_000_000;
 
     private static final int KIND_SUM = 0;
     private static final int KIND_TABLE = 1;
@@ -854,7 +855,7 @@ public final class PayOrders {
         }
 
         private void shareRank(boolean even) {
-            int above = Integer.MAX_VALUE;
+            int above = ABOVE_ALL_FLOORS;
             for (int k = 0; k < memberCount; k++) {
                 int bottom = greatestFloorBelow(above);
                 if (bottom == NONE) {
@@ -1053,21 +1054,42 @@ public final class PayOrders {
         private static final int LONGEST_WORD = 6;
         private static final int LONGEST_WHOLE = 5;
 
+        // A WORD is kept as one number, a byte a letter, so that comparing it needs no text.
+        private static final long W_DESK = 0x6465736bL;
+        private static final long W_TABLE = 0x7461626c65L;
+        private static final long W_PAYER = 0x7061796572L;
+        private static final long W_ORDER = 0x6f72646572L;
+        private static final long W_ALL = 0x616c6cL;
+        private static final long W_KEEP = 0x6b656570L;
+        private static final long W_PART = 0x70617274L;
+        private static final long W_SHARE = 0x7368617265L;
+        private static final long W_EVEN = 0x6576656eL;
+        private static final long W_PARTS = 0x7061727473L;
+        private static final long W_STEPS = 0x7374657073L;
+        private static final long W_FROM = 0x66726f6dL;
+        private static final long W_TAKE = 0x74616b65L;
+        private static final long W_WEEKS = 0x7765656b73L;
+        private static final long W_RANK = 0x72616e6bL;
+        private static final long W_TOTAL = 0x746f74616cL;
+        private static final long W_SUM = 0x73756dL;
+        private static final long W_AT = 0x6174L;
+
         private static final int TABLES = 0;
         private static final int PAYERS = 1;
         private static final int ORDERS = 2;
+        private static final int SORTS = 3;
 
         /** Where the token stands that is looked at; with a FAULT, its place. */
         int place;
         private int behind;
         private int length;
         private int token;
-        private int value;
+        private long value;
         private int number;
         private int fault;
         private boolean deskRead;
-        private final int[][] names = new int[3][MOST_ORDERS];
-        private final int[] nameCounts = new int[3];
+        private final long[][] names = new long[SORTS][MOST_ORDERS];
+        private final int[] nameCounts = new int[SORTS];
 
         /** Answers the FAULT; without one (0) the text stands in the DESK. */
         int read(byte[] text, int n, Desk desk) {
@@ -1077,59 +1099,51 @@ public final class PayOrders {
             deskRead = false;
             Arrays.fill(nameCounts, 0);
             desk.clear();
-            advance(text);
-            readLines(text, desk);
+            boolean more = true;
+            for (int lines = 0; lines <= TAPE_LENGTH && more; lines++) {
+                advance(text);
+                more = readLine(text, desk) && token == MARK;
+            }
+            if (fault == 0 && token != END) {
+                fail(FAULT_FORM);
+            } else if (fault == 0 && desk.payerCount == 0) {
+                fail(FAULT_LACKS);
+            }
             return fault;
         }
 
-        private boolean readLines(byte[] text, Desk desk) {
-            for (int lines = 0; lines <= TAPE_LENGTH; lines++) {
-                if (!readLine(text, desk)) {
-                    return false;
-                }
-                if (token == END) {
-                    return desk.payerCount > 0 || fail(FAULT_LACKS);
-                }
-                if (token != MARK) {
-                    return fail(FAULT_FORM);
-                }
-                advance(text);
-            }
-            return fail(FAULT_FORM);
-        }
-
         private boolean readLine(byte[] text, Desk desk) {
-            if (isWord("desk")) {
+            if (isWord(W_DESK)) {
                 return deskRead ? fail(FAULT_AGAIN) : readDeskLine(text, desk);
             }
-            if (!isWord("table") && !isWord("payer") && !isWord("order")) {
+            if (!isWord(W_TABLE) && !isWord(W_PAYER) && !isWord(W_ORDER)) {
                 return fail(FAULT_FORM);
             }
             if (!deskRead) {
                 return fail(FAULT_LACKS);
             }
-            if (isWord("table")) {
+            if (isWord(W_TABLE)) {
                 return readTable(text, desk);
             }
-            return isWord("payer") ? readPayer(text, desk) : readOrder(text, desk);
+            return isWord(W_PAYER) ? readPayer(text, desk) : readOrder(text, desk);
         }
 
         private boolean readDeskLine(byte[] text, Desk desk) {
             deskRead = true;
             advance(text);
-            if (!passWord(text, "keep") || !passWhole(text, 0, MOST_KEEP)) {
+            if (!passWord(text, W_KEEP) || !passWhole(text, 0, MOST_KEEP)) {
                 return false;
             }
             desk.keep = number;
-            if (!passWord(text, "part") || !passWhole(text, 0, MOST_HUNDREDTHS)) {
+            if (!passWord(text, W_PART) || !passWhole(text, 0, MOST_HUNDREDTHS)) {
                 return false;
             }
             desk.part = number;
-            if (!passWord(text, "share")) {
+            if (!passWord(text, W_SHARE)) {
                 return false;
             }
-            desk.even = isWord("even");
-            return passWord(text, desk.even ? "even" : "parts");
+            desk.even = isWord(W_EVEN);
+            return passWord(text, desk.even ? W_EVEN : W_PARTS);
         }
 
         private boolean readTable(byte[] text, Desk desk) {
@@ -1142,33 +1156,32 @@ public final class PayOrders {
             }
             Table table = desk.tables[desk.tableCount];
             desk.tableCount++;
-            table.begin(isWord("steps"));
-            if (!passWord(text, table.steps ? "steps" : "all")) {
+            table.begin(isWord(W_STEPS));
+            if (!passWord(text, table.steps ? W_STEPS : W_ALL)) {
                 return false;
             }
             for (int i = 0; i < MOST_ROWS; i++) {
-                if (!readRow(text, table)) {
+                if (!readRow(text, table, i)) {
                     return false;
                 }
-                if (!isWord("from")) {
+                if (!isWord(W_FROM)) {
                     return true;
                 }
             }
             return fail(FAULT_MANY);
         }
 
-        private boolean readRow(byte[] text, Table table) {
-            int row = table.rowCount;
-            int least = row > 0 ? table.from[row - 1] + 1 : 0;
-            if (!passWord(text, "from") || !passWhole(text, least, MOST_FROM)) {
+        private boolean readRow(byte[] text, Table table, int i) {
+            int least = i > 0 ? table.from[i - 1] + 1 : 0;
+            if (!passWord(text, W_FROM) || !passWhole(text, least, MOST_FROM)) {
                 return false;
             }
-            table.from[row] = number;
-            if (!passWord(text, "take") || !passWhole(text, 0, MOST_HUNDREDTHS)) {
+            table.from[i] = number;
+            if (!passWord(text, W_TAKE) || !passWhole(text, 0, MOST_HUNDREDTHS)) {
                 return false;
             }
-            table.take[row] = number;
-            table.rowCount++;
+            table.take[i] = number;
+            table.rowCount = i + 1;
             return true;
         }
 
@@ -1177,7 +1190,7 @@ public final class PayOrders {
                 return fail(FAULT_MANY);
             }
             advance(text);
-            if (!passNewName(text, PAYERS) || !passWord(text, "weeks")
+            if (!passNewName(text, PAYERS) || !passWord(text, W_WEEKS)
                     || !passWhole(text, 1, MOST_WEEKS_OF_PAY)) {
                 return false;
             }
@@ -1194,42 +1207,41 @@ public final class PayOrders {
             Order order = desk.orders[desk.orderCount];
             desk.orderCount++;
             order.begin();
-            if (!passNewName(text, ORDERS)
-                    || !passWord(text, "rank") || !passWhole(text, 1, MOST_RANK)) {
+            if (!passNewName(text, ORDERS) || !passWord(text, W_RANK) || !passWhole(text, 1, MOST_RANK)) {
                 return false;
             }
             order.rank = number;
-            if (!passWord(text, "keep") || !passWhole(text, 0, MOST_KEEP)) {
+            if (!passWord(text, W_KEEP) || !passWhole(text, 0, MOST_KEEP)) {
                 return false;
             }
             order.keep = number;
-            if (!passWord(text, "total") || !passWhole(text, 0, MOST_TOTAL)) {
+            if (!passWord(text, W_TOTAL) || !passWhole(text, 0, MOST_TOTAL)) {
                 return false;
             }
             order.total = number;
-            return readKind(text, order) && passWord(text, "at") && readPlace(text, order);
+            return readKind(text, order) && passWord(text, W_AT) && readPlace(text, order);
         }
 
         private boolean readKind(byte[] text, Order order) {
             boolean read;
-            if (isWord("sum")) {
+            if (isWord(W_SUM)) {
                 order.kind = KIND_SUM;
                 advance(text);
                 read = passWhole(text, 1, MOST_SUM);
-            } else if (isWord("table")) {
+            } else if (isWord(W_TABLE)) {
                 order.kind = KIND_TABLE;
                 advance(text);
                 read = passKnownName(text, TABLES);
             } else {
                 order.kind = KIND_PART;
-                read = passWord(text, "part") && passWhole(text, 1, MOST_HUNDREDTHS);
+                read = passWord(text, W_PART) && passWhole(text, 1, MOST_HUNDREDTHS);
             }
             order.amount = number;
             return read;
         }
 
         private boolean readPlace(byte[] text, Order order) {
-            if (isWord("all")) {
+            if (isWord(W_ALL)) {
                 order.payers = ALL_PAYERS;
                 advance(text);
                 return true;
@@ -1241,7 +1253,7 @@ public final class PayOrders {
             return true;
         }
 
-        private boolean passWord(byte[] text, String word) {
+        private boolean passWord(byte[] text, long word) {
             if (!isWord(word)) {
                 return fail(FAULT_FORM);
             }
@@ -1253,10 +1265,10 @@ public final class PayOrders {
             if (token != WHOLE) {
                 return fail(FAULT_FORM);
             }
-            if (!within(value, least, most)) {
+            if (value < least || value > most) {
                 return fail(FAULT_WHOLE);
             }
-            number = value;
+            number = (int) value;
             advance(text);
             return true;
         }
@@ -1298,24 +1310,12 @@ public final class PayOrders {
         }
 
         private boolean isName() {
-            return token == WORD && !isWord("desk") && !isWord("table") && !isWord("payer")
-                    && !isWord("order") && !isWord("all");
+            return token == WORD && value != W_DESK && value != W_TABLE && value != W_PAYER
+                    && value != W_ORDER && value != W_ALL;
         }
 
-        private boolean isWord(String word) {
-            if (token != WORD) {
-                return false;
-            }
-            int code = 0;
-            for (int i = 0; i < word.length(); i++) {
-                code = withLetter(code, word.charAt(i));
-            }
-            return code == value;
-        }
-
-        // Words of up to six letters have numbers of their own, so a NAME is kept as one.
-        private static int withLetter(int code, int letter) {
-            return code * 27 + letter - 'a' + 1;
+        private boolean isWord(long word) {
+            return token == WORD && value == word;
         }
 
         private boolean fail(int why) {
@@ -1346,7 +1346,7 @@ public final class PayOrders {
         private void scanWord(byte[] text) {
             int i = place;
             while (i < length && text[i] >= 'a' && text[i] <= 'z') {
-                value = withLetter(value, text[i]);
+                value = value << 8 | text[i];
                 i++;
             }
             behind = i;

@@ -83,6 +83,7 @@ public final class ActsTest {
         due.is("total(0, 110)", x.total(0, 110), 99_999);
         due.is("OWED, REST at most", x.order(0, 7), 60);
         due.refused(x, "total(0, 49)", x.total(0, 49), 5);
+        due.refused(x, "total(0, 1)", x.total(0, 1), 5);
         due.is("total(0, 50)", x.total(0, 50), 110);
         due.is("OWED 0", x.order(0, 7), 0);
         due.is("LIVE no more", x.order(0, 9), 0);

@@ -24,6 +24,8 @@ public final class DeskTest {
         for (int what = 0; what < at.length; what++) {
             due.is("about(" + what + ")", x.about(what), at[what]);
         }
+        PayOrders y = Due.made("desk keep 0 part 0 share parts;payer p weeks 1");
+        due.is("about(2) by parts", y.about(2), 0);
         due.refused(x, "about(12)", x.about(12), 1);
         due.refused(x, "about(-1)", x.about(-1), 1);
         x.weeks(2);
@@ -162,6 +164,8 @@ public final class DeskTest {
         due.noTurn(x, 2, 0);
         due.noTurn(x, -1, 0);
         due.is("trouble() stays by turn", x.trouble(), 1);
+        x.rank(1, 9);
+        due.is("turn(0, 2) of RANK 9", x.turn(0, 2), 1);
         x.stop(1, true);
         x.rank(0, 1);
         due.is("turn(0, 0) then", x.turn(0, 0), 0);

@@ -8,6 +8,7 @@ public final class DeskTextTest {
         aNewObject();
         theTape();
         theDeskTakesTheTape();
+        aDeskKeepsNothingOfEarlierOnes();
         whatAFaultLeaves();
         form();
         wholes();
@@ -77,6 +78,40 @@ public final class DeskTextTest {
         due.is("its PAYS", x.about(7), 0);
         due.is("its NETS", x.about(8), 0);
         due.refused(x, "its log", x.past(0, 0), 1);
+    }
+
+    private static void aDeskKeepsNothingOfEarlierOnes() {
+        PayOrders x = new PayOrders();
+        String busy = PAYER + ";table t all from 0 take 9 from 5 take 8;order a rank 1 keep 0 total 0 part 9 at p"
+                + ";order b rank 1 keep 0 total 0 table t at p";
+        for (int i = 0; i < 2; i++) {
+            due.is("a busy desk", Due.tell(x, busy), 2);
+            x.weeks(9);
+            x.pay(0, 500);
+            x.stop(0, true);
+            x.stop(1, true);
+        }
+        for (int i = 0; i < 2; i++) {
+            due.is("a plain desk", Due.tell(x, PAYER + ";table z steps from 7 take 1"
+                    + ";order zzz rank 1 keep 0 total 50 sum 5 at p;order yz rank 1 keep 0 total 0 part 1 at p"), 2);
+            for (int what = 6; what < 11; what++) {
+                due.is("about(" + what + ") of a plain desk", x.about(what), 0);
+            }
+            due.is("TABLES of a plain desk", x.about(3), 1);
+            due.refused(x, "row(0, 1, 0) of a plain desk", x.row(0, 1, 0), 1);
+            for (int what = 1; what < 4; what++) {
+                due.is("payer(0, " + what + ") of a plain desk", x.payer(0, what), 0);
+            }
+            int[] plain = {1, 0, 50, 0, 5, 1, 0, 0, 50, 1, 0, 0};
+            for (int what = 0; what < 12; what++) {
+                due.is("order(0, " + what + ") of a plain desk", x.order(0, what), plain[what]);
+            }
+            due.is("LIVE ones of a plain desk", x.about(11), 3);
+            x.weeks(1);
+            x.pay(0, 50);
+            due.is("the log of a plain desk", x.past(0, 4), 1);
+            due.refused(x, "the log of a plain desk", x.past(1, 0), 1);
+        }
     }
 
     private static void whatAFaultLeaves() {

@@ -148,7 +148,13 @@ public final class PayTest {
         took(z, "of two weeks", 0, 15, 35);
         z.forgive(0);
         z.forgive(1);
-        due.is("one that wants nothing has no floor", z.pay(0, 70), 45);
+        due.is("c has all it wants yet", z.pay(0, 70), 45);
+        PayOrders w = Due.made(desk(0, 0, "even") + order('a', 1, 51, 0, "part 1") + order('b', 1, 0, 0, "sum 99")
+                + order('c', 1, 0, 0, "sum 99"));
+        w.weeks(1);
+        // a wants nothing, so 51 is no number to share above: 62 are shared at once
+        due.is("pay(0, 62)", w.pay(0, 62), 0);
+        took(w, "one that wants nothing has no floor", 0, 31, 31);
     }
 
     private static void shortIsCarriedOn() {
@@ -165,6 +171,15 @@ public final class PayTest {
         due.is("pay(0, 200)", x.pay(0, 200), 160 - 7);
         due.is("REST 0", x.order(0, 8), 0);
         due.is("OWED 0", x.order(0, 7), 0);
+        PayOrders y = Due.made("desk keep 0 part 0 share even;table t all from 0 take 50;payer p weeks 1"
+                + order('a', 1, 60, 0, "table t") + order('b', 1, 60, 0, "part 60"));
+        due.is("both are short", y.pay(0, 61), 60);
+        due.is("OWED of a", y.order(0, 7), 29);
+        due.is("OWED of b", y.order(1, 7), 36);
+        due.is("PAYS from which a TOOK 1", y.order(0, 11), 1);
+        y.pay(0, 300);
+        due.is("a WANTED, and OWED", y.pastOf(0, 0, 0), 179);
+        due.is("b WANTED, and OWED", y.pastOf(0, 1, 0), 216);
     }
 
     private static void theLog() {

@@ -82,6 +82,14 @@ public final class WouldTest {
         y.weeks(60);
         due.is("enough, never", y.enough(0, 0), -2);
         due.is("first, just above the FLOOR", y.first(0, 0), 3997);
+        PayOrders z = Due.made("desk keep 0 part 0 share even;payer p weeks 1;table t all from 9999 take 99"
+                + ";order a rank 1 keep 0 total 1 table t at p;order b rank 1 keep 999 total 0 sum 999 at p");
+        due.is("enough at 9,999", z.enough(0, 0), 9999);
+        due.is("first at 9,999", z.first(0, 0), 9999);
+        z.weeks(9);
+        due.is("enough above its own KEEP", z.enough(1, 0), 9990);
+        z.weeks(1);
+        due.is("enough in none", z.enough(1, 0), -2);
     }
 
     private static void doneAndAhead() {
@@ -116,6 +124,8 @@ public final class WouldTest {
         due.is("done in WEEK 200", y.done(0, 1), 200);
         y.total(0, 201);
         due.is("done behind WEEK 200", y.done(0, 1), -2);
+        PayOrders z = Due.made("desk keep 0 part 0 share even;payer p weeks 1;order a rank 1 keep 20 total 0 sum 9 at p");
+        due.is("an ORDER's own KEEP in a RUN", z.ahead(0, 22, 3, 0), 6);
     }
 
     private static void payersInARun() {
@@ -148,6 +158,8 @@ public final class WouldTest {
         due.is("steady(1) above 9,950", y.steady(1), -2);
         y.pay(0, 40);
         due.is("steady(1) at 9,950", y.steady(1), 9950);
+        PayOrders z = Due.made("desk keep 0 part 0 share even;payer p weeks 1;order a rank 1 keep 0 total 0 sum 51 at p");
+        due.is("steady(1), 1 owed is too much", z.steady(1), 100);
     }
 
     private static void nothingChanges() {
