@@ -79,10 +79,10 @@ public final class ModelTest {
         }
         for (int o = 0; o < orders; o++) {
             s.append(";order ").append(NAMES[o]).append(" rank ").append(small ? 1 + upTo(1) : good(1, 9))
-                    .append(" keep ").append(small ? pick(0, 20, 40, 70) : good(0, 999)).append(" total ")
+                    .append(" keep ").append(small ? pick(0, 20, 21, 40, 42, 70) : good(0, 999)).append(" total ")
                     .append(pick(0, 0, upTo(300), good(0, 99_999)));
             int kind = upTo(tables > 0 ? 2 : 1);
-            s.append(kind == 0 ? " sum " + (small ? 1 + upTo(80) : good(1, 999))
+            s.append(kind == 0 ? " sum " + (small ? 1 + upTo(pick(3, 80)) : good(1, 999))
                     : kind == 1 ? " part " + good(1, 99) : " table " + NAMES[upTo(tables - 1)]);
             s.append(" at ").append(random.nextBoolean() ? "all" : NAMES[upTo(payers - 1)]);
         }

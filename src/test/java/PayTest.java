@@ -155,6 +155,12 @@ public final class PayTest {
         // a wants nothing, so 51 is no number to share above: 62 are shared at once
         due.is("pay(0, 62)", w.pay(0, 62), 0);
         took(w, "one that wants nothing has no floor", 0, 31, 31);
+        PayOrders v = Due.made(desk(48, 0, "even") + order('a', 1, 0, 0, "sum 1") + order('b', 1, 0, 0, "sum 1")
+                + order('c', 1, 0, 0, "sum 10") + order('d', 1, 50, 0, "sum 5"));
+        v.weeks(1);
+        // above 50: 4, 1 each; above 48: 2, and c alone wants yet, so both are for it
+        due.is("pay(0, 54)", v.pay(0, 54), 48);
+        took(v, "those that have all are no more counted", 1, 1, 3, 1);
     }
 
     private static void shortIsCarriedOn() {
