@@ -3,15 +3,27 @@ import java.util.NoSuchElementException;
 
 /** Counts answers that are not as due, and writes desks onto tapes. */
 final class Due {
+    private String sentence = "";
     private int wrong;
     private int asked;
+
+    /** The promise or the term, with its words, by which the answers behind it are due. */
+    void by(String words) {
+        sentence = words + ": ";
+    }
 
     void is(String call, long got, long want) {
         asked++;
         if (got != want) {
             wrong++;
-            System.out.println(call + " answered " + got + ", due is " + want);
+            System.out.println(sentence + call + " answered " + got + ", due is " + want);
         }
+    }
+
+    /** A call that is answered, as trouble() tells. */
+    void granted(PayOrders x, String call, int got, int want) {
+        is(call, got, want);
+        is("trouble() behind " + call, x.trouble(), 0);
     }
 
     /** A refused call: NONE, and the trouble that is told. */
@@ -25,7 +37,7 @@ final class Due {
         try {
             int o = x.turn(p, i);
             wrong++;
-            System.out.println("turn(" + p + ", " + i + ") answered " + o + ", due is an exception");
+            System.out.println(sentence + "turn(" + p + ", " + i + ") answered " + o + ", due is an exception");
         } catch (NoSuchElementException e) {
             return;
         }
