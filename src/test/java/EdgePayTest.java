@@ -393,6 +393,13 @@ public final class EdgePayTest {
         takes(y, 15, 3, 1, 3, 2, 3, 3);
         takes(y, 17, 4, 1, 4, 2, 3, 3);
         takes(y, 32, 9, 1, 9, 2, 8, 3);
+        due.by("Term II, even: that again with what there is still, as much as there may be");
+        PayOrders z = Due.made(desk(0, 0, "even") + order('a', 1, 0, 0, "sum 1") + order('b', 1, 0, 0, "sum 999"));
+        z.weeks(20);
+        takes(z, 9999, 20, 9979);
+        takes(z, 41, 20, 21);
+        takes(z, 40, 20, 20);
+        takes(z, 39, 20, 19);
     }
 
     private static void sharedByParts() {
@@ -451,6 +458,12 @@ public final class EdgePayTest {
         x.forgive(2);
         takes(x, 31, 0, 10, 0, 0);
         takes(x, 19, 0, 9, 0, 0);
+        PayOrders z = Due.made(desk(48, 0, "even") + order('a', 1, 0, 0, "sum 1") + order('b', 1, 0, 0, "sum 1")
+                + order('c', 1, 0, 0, "sum 10") + order('d', 1, 50, 0, "sum 5"));
+        z.weeks(1);
+        // above 50: 4, 1 each; above 48: 2, and c alone wants yet
+        takes(z, 54, 1, 1, 3, 1);
+        takes(z, 55, 1, 1, 4, 1);
     }
 
     private static void noLessThanFloor() {

@@ -243,6 +243,10 @@ public final class EdgeRunTest {
         due.is("b", x.ahead(1, 10, 1, 0), 10);
         due.is("c", x.ahead(2, 10, 1, 0), 0);
         due.is("a", x.ahead(0, 10, 1, 0), 10);
+        due.by("Term III, a PAY of a RUN is one as all are, by an OWN FLOOR, too");
+        PayOrders y = made(";order a rank 1 keep 20 total 0 sum 9 at p");
+        due.is("at its OWN FLOOR", y.ahead(0, 20, 3, 0), 0);
+        due.is("above its OWN FLOOR", y.ahead(0, 21, 3, 0), 3);
         due.by("Term III, all PAYERS with that NET");
         due.is("b of 15", x.ahead(1, 15, 1, 0), 10);
         due.is("c of 15", x.ahead(2, 15, 1, 0), 5);

@@ -20,6 +20,7 @@ public final class EdgeTextTest {
         deskRefusedByTwo();
         deskRefusedByFour();
         deskFromNowOn();
+        nothingOfEarlierOnes();
         faultOfTheLatest();
         whereOfTheLatest();
         sizeOfTheTape();
@@ -204,6 +205,50 @@ public final class EdgeTextTest {
             x.pay(0, 7);
             due.is("OWED behind two WEEKS and a PAY", x.about(10), orders == 0 ? 0 : 10 * orders - 6);
             text.append(";order ").append((char) ('a' + orders)).append(ORDER);
+        }
+    }
+
+    private static void nothingOfEarlierOnes() {
+        due.by("Promise 3, are the DESK from now on: nothing of earlier ones");
+        String busy = "desk keep 9 part 8 share parts;table t all from 0 take 9 from 5 take 8;table u all from 0 take 7"
+                + ";payer p weeks 1;payer q weeks 2;order a rank 1 keep 0 total 900 part 9 at p"
+                + ";order b rank 1 keep 0 total 0 table u at q;order c rank 2 keep 0 total 0 sum 5 at all";
+        String plain = "desk keep 0 part 0 share even;payer q weeks 3;table u steps from 7 take 1"
+                + ";order b rank 4 keep 5 total 6 sum 7 at q;order c rank 4 keep 5 total 0 sum 8 at all";
+        PayOrders x = new PayOrders();
+        for (int i = 0; i < 2; i++) {
+            Due.tell(x, busy);
+            x.weeks(9);
+            x.pay(0, 500);
+            x.pay(1, 400);
+            x.stop(0, true);
+            x.stop(1, true);
+        }
+        PayOrders y = new PayOrders();
+        for (int i = 0; i < 2; i++) {
+            due.is("a plain one behind busy ones", Due.tell(x, plain), Due.tell(y, plain));
+            same(x, y, "at first");
+            due.is("weeks(4)", x.weeks(4), y.weeks(4));
+            due.is("pay(0, 40)", x.pay(0, 40), y.pay(0, 40));
+            same(x, y, "behind a PAY");
+        }
+    }
+
+    /** What is told of a desk with a payer, a table and two orders, and of more than there are. */
+    private static void same(PayOrders x, PayOrders y, String when) {
+        for (int what = 0; what < 12; what++) {
+            due.is(when + ", about(" + what + ")", x.about(what), y.about(what));
+            for (int o = 0; o < 3; o++) {
+                due.is(when + ", order(" + o + ", " + what + ")", x.order(o, what), y.order(o, what));
+            }
+        }
+        for (int what = 0; what < 5; what++) {
+            for (int i = 0; i < 2; i++) {
+                due.is(when + ", payer(" + i + ", " + what + ")", x.payer(i, what), y.payer(i, what));
+                due.is(when + ", past(" + i + ", " + what + ")", x.past(i, what), y.past(i, what));
+                due.is(when + ", row(0, " + i + ", 0)", x.row(0, i, 0), y.row(0, i, 0));
+                due.is(when + ", row(1, " + i + ", 0)", x.row(1, i, 0), y.row(1, i, 0));
+            }
         }
     }
 

@@ -1,22 +1,28 @@
 import java.util.NoSuchElementException;
 import java.util.Random;
 
-/** Long runs of calls of all kinds, on good and on broken texts: each answer as the model's, no other exception. */
+/**
+ * Long runs of calls of all kinds, on good and on broken texts: each answer as the model's, no other exception.
+ * No object is used for more than the 512 calls of which the document tells.
+ */
 public final class ModelTest {
     private static final String[] NAMES = {"a", "b", "c", "from", "keep", "zzzzzz", "sum"};
     private static final String[] STRAY = {"desk", "table", "payer", "order", "all", ";", "from", "0", "5", "99999",
         "100000", "abcdefg", "x", "?", "A", "\u00ff", "\u0000", "even", "at", " ", "take"};
+    private static final int MOST_CALLS = 512;
+    private static final int MOST_OF_A_STEP = 35;
     private final Random random;
     private final PayOrders x = new PayOrders();
     private final Model m = new Model();
     private final StringBuilder story = new StringBuilder();
+    private int used;
 
     private ModelTest(long seed) {
         random = new Random(seed);
     }
 
     public static void main(String[] args) {
-        int runs = args.length > 0 ? Integer.parseInt(args[0]) : 1500;
+        int runs = args.length > 0 ? Integer.parseInt(args[0]) : 3500;
         long calls = 0;
         for (int seed = 0; seed < runs; seed++) {
             calls += new ModelTest(seed).run(seed);
@@ -121,6 +127,7 @@ public final class ModelTest {
 
     private void same(String call, int got, int want) {
         story.append(call).append(" = ").append(want).append('\n');
+        used += 5;
         if (got != want || x.trouble() != m.trouble || x.fault() != m.fault || x.where() != m.where()
                 || x.size() != m.tape.length()) {
             System.out.println(story + "the last answered " + got + "; trouble " + x.trouble() + " for " + m.trouble
@@ -137,7 +144,12 @@ public final class ModelTest {
             for (int k = 0; k < 5; k++) {
                 f[k] = Due.four(bytes, i + 4 * k);
             }
-            same("feed", x.feed(f[0], f[1], f[2], f[3], f[4]), m.feed(f));
+            used++;
+            int size = m.feed(f);
+            if (x.feed(f[0], f[1], f[2], f[3], f[4]) != size) {
+                System.out.println(story + "feed is not " + size);
+                System.exit(1);
+            }
         }
         int n = upTo(30) == 0 ? wild() : upTo(30) == 0 ? upTo(bytes.length) : bytes.length;
         same("desk(" + n + ")", x.desk(n), m.makeDesk(n));
@@ -145,17 +157,13 @@ public final class ModelTest {
 
     private int run(int seed) {
         story.append("seed ").append(seed).append('\n');
-        int texts = 0;
         if (upTo(20) != 0) {
-            if (seed % 3 == 0) {
-                for (int i = 0; i < 12; i++, texts++) {
-                    tell(broken(text()));
-                }
+            for (int i = 0; i < 8 && seed % 3 == 0; i++) {
+                tell(broken(text()));
             }
             tell(text());
         }
-        int calls = 200;
-        for (int i = 0; i < calls; i++) {
+        for (int i = 0; used + MOST_OF_A_STEP <= MOST_CALLS; i++) {
             if (i % 60 == 59) {
                 tell(random.nextBoolean() ? text() : broken(text()));
             }
@@ -167,7 +175,7 @@ public final class ModelTest {
                 foresee(upTo(8));
             }
         }
-        return calls + texts;
+        return used;
     }
 
     private void ask(int which) {
