@@ -841,7 +841,7 @@ public final class PayOrders {
                 Order order = orders[o];
                 if (present[o] && order.rank == rank) {
                     int asked = order.owed;
-                    if (order.kind == KIND_TABLE) {
+                    if (order.kind == KIND_TABLE && desk.hasTable(order.amount)) {
                         asked += desk.tables[order.amount].tells(net, weeks);
                     } else if (order.kind == KIND_PART) {
                         asked += order.amount * aboveFloor / 100;
